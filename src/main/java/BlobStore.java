@@ -543,9 +543,7 @@ public final class BlobStore {
             schedule[0] = (int) (padded >>> 32);
             schedule[1] = (int) padded;
             schedule[2] = endsInside ? 0 : 0x80000000;
-            for (int t = 3; t < BLOCK_WORDS - 1; t++) {
-                schedule[t] = 0;
-            }
+            // Words 3 to 14 are 0 for so few bytes, and nothing else is ever written there.
             schedule[BLOCK_WORDS - 1] = 8 * n;
         }
 

@@ -97,7 +97,7 @@ public final class ChunksTest {
         BlobStore x = Stores.withSession();
         x.part(0, 1, 8, 0, 0, 0);
         x.part(0, 2, 1, 0, 0, 0);
-        int[] others = {0, -1, 9, 16, Integer.MIN_VALUE, Integer.MAX_VALUE};
+        int[] others = {0, -1, 9, 16, 8 + (1 << 29), Integer.MIN_VALUE, Integer.MAX_VALUE};
         for (int other : others) {
             CHECK.due("slotOf(" + other + ", 0)", x.slotOf(other, 0), -1);
         }

@@ -133,9 +133,11 @@ public final class PartsTest {
     }
 
     private static void wrongArguments() {
-        int[][] others = {{-1, 1, 1}, {1, 1, 1}, {5, 1, 1}, {0, 0, 1}, {0, 7, 1}, {0, -1, 1}, {0, 1, -1},
-            {0, 1, 25}, {0, 1, Integer.MIN_VALUE}, {0, 1, Integer.MAX_VALUE}, {Integer.MAX_VALUE, 1, 1},
-            {Integer.MIN_VALUE, 1, 1}, {0, Integer.MAX_VALUE, 1}, {0, Integer.MIN_VALUE, 1}, {1, 1, 0}, {0, 7, 0}};
+        int least = Integer.MIN_VALUE;
+        int most = Integer.MAX_VALUE;
+        int[][] others = {{-1, 1, 1}, {1, 1, 1}, {5, 1, 1}, {least, 1, 1}, {most, 1, 1}, {1, 1, 0},
+            {0, 0, 1}, {0, 7, 1}, {0, -1, 1}, {0, least, 1}, {0, most, 1}, {0, 7, 0},
+            {0, 1, -1}, {0, 1, 25}, {0, 1, 8 + (1 << 29)}, {0, 1, least}, {0, 1, most}};
         BlobStore x = Stores.withSession();
         x.cutAfter(0);
         for (int[] other : others) {

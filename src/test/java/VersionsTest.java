@@ -82,6 +82,9 @@ public final class VersionsTest {
         CHECK.due("down", x.state(5), 0);
         CHECK.due("byteAt(39, 7)", x.byteAt(39, 7), 39);
         CHECK.due("state(7)", x.state(7), 0);
+        CHECK.due("needed(38)", x.needed(38), 1);
+        CHECK.due("needed(39)", x.needed(39), 0);
+        CHECK.due("latest(0, 0)", x.latest(0, 0), 32);
     }
 
     private static void completeAndThePower() {
@@ -185,14 +188,16 @@ public final class VersionsTest {
     }
 
     private static void tellingWhileDown() {
-        BlobStore x = Stores.down(Stores.withVersion(0x0900000000000000L));
+        BlobStore x = Stores.withVersion(0x0900000000000000L);
+        int word = x.address(0, 3);
+        Stores.down(x);
         CHECK.due("latest(0, 0), down", x.latest(0, 0), 1);
         CHECK.due("size(1), down", x.size(1), 8);
         CHECK.due("size(2), down", x.size(2), -1);
         CHECK.due("byteAt(1, 0), down", x.byteAt(1, 0), 9);
         CHECK.due("needed(0), down", x.needed(0), 1);
         CHECK.due("slotOf, down", x.slotOf(8, 0x0900000000000000L), 0);
-        CHECK.due("address, down", x.address(0, 0), x.address(0, 0));
+        CHECK.due("address(0, 3), down", x.address(0, 3), word);
         CHECK.due("state(5), down", x.state(5), 1);
     }
 }
