@@ -7,10 +7,22 @@ final class Check {
     static final Class<?> ELEMENT = java.util.NoSuchElementException.class;
 
     private final String test;
+    private String sentence = "";
     private int wrong = 0;
 
     Check(String test) {
         this.test = test;
+    }
+
+    /** Runs the test of one sentence; its words, as they stand in the document, are told with each fault. */
+    void says(String words, Runnable itsTest) {
+        sentence = " '" + words + "'";
+        try {
+            itsTest.run();
+        } catch (RuntimeException e) {
+            tell("a call threw " + e + " at " + e.getStackTrace()[0] + ", and none is due");
+        }
+        sentence = "";
     }
 
     void due(String call, long got, long want) {
@@ -40,7 +52,7 @@ final class Check {
 
     void tell(String fault) {
         wrong++;
-        System.out.println(test + ": " + fault);
+        System.out.println(test + sentence + ": " + fault);
     }
 
     void end() {
